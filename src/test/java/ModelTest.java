@@ -61,7 +61,8 @@ public final class ModelTest {
     }
 
     private void step() {
-        int draw = random.nextInt(100);
+        // some runs write so often that the NUMBERS come to their end
+        int draw = run % 4 == 0 && random.nextInt(3) == 0 ? 17 : random.nextInt(100);
         if (draw < 30) {
             writeOrRead(draw);
         } else if (draw < 55) {

@@ -29,6 +29,7 @@ public final class PromisesTest {
         promise7Word();
         promise8Sound();
         promise8SoundLooksAtEveryPart();
+        promise8NumbersNotWritten();
         promise9Best();
         promise10Repair();
         promise10RepairCopiesTheLeastPlace();
@@ -284,10 +285,9 @@ public final class PromisesTest {
     /** A record that is SOUND with a share nobody wrote shows which records are decoded. */
     private static void forge(ShareGrid g, int needed, int servers, int s, int q) {
         int[] prints = Terms.fingerprints(Terms.cipher(R, 1, words(needed)), servers);
-        int root = Terms.root(prints, 1);
         int[] forged = prints.clone();
         forged[s] = Terms.mix((int) g.share(0, s, 0) ^ 0x1234567, s + 100);
-        forged[q] = Terms.fingerprintForRoot(forged, 1, q, root);
+        forged[q] = Terms.fingerprintForRoot(forged, 1, q, Terms.root(prints, 1));
         g.tamper(0, s, 0, 0x1234567);
         g.tamper(0, s, 3 + s, prints[s] ^ forged[s]);
         g.tamper(0, s, 3 + q, prints[q] ^ forged[q]);
@@ -391,6 +391,20 @@ public final class PromisesTest {
         due("8: sound by the terms' own words", forged.sound(V), 5);
     }
 
+    /** No ROOT and SEAL make a record SOUND whose NUMBER was not written, not even 0 and 0. */
+    private static void promise8NumbersNotWritten() {
+        for (int number : new int[] {0, 2, 3, 30, 31, -1, MIN, MAX}) {
+            ShareGrid g = written(1, 3);
+            int[] prints = Terms.fingerprints(Terms.cipher(R, 1, words(1)), 3);
+            g.tamper(0, 0, 1, 1 ^ number);
+            g.tamper(0, 0, 2, (int) g.share(0, 0, 2));
+            g.tamper(0, 0, 5, prints[2] ^ Terms.fingerprintForRoot(prints, number, 2, 0));
+            due("8: number " + number + " was not written", g.sound(V), 2);
+            due("8: it is not the best", g.best(V), 1);
+            due("8: it is repaired", g.repair(V), 1);
+        }
+    }
+
     private static void promise9Best() {
         ShareGrid g = new ShareGrid(2, 5);
         due("9: nothing stored", g.best(V), REFUSED);
@@ -483,7 +497,9 @@ public final class PromisesTest {
         due("10: the fingerprints of place 1 do not fit there", g.sound(V), 2);
         due("10: so they are given again", g.repair(V), 2);
         g.tamper(0, 0, 0, Terms.share(cipher, 0) ^ share(0));
-        due("10: with place 1's fingerprints, the right share is unsound at 3, sound at 0", g.sound(V), 3);
+        due("10: the right share is sound at 0", g.sound(V), 3);
+        g.tamper(0, 3, 0, Terms.share(cipher, 3) ^ share(3));
+        due("10: but not at 3, with the fingerprints of place 1", g.sound(V), 3);
     }
 
     /** The share at place s of what written(2, 4) wrote. */
