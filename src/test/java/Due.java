@@ -4,8 +4,14 @@ final class Due {
 
     private static int asked = 0;
     private static int wrong = 0;
+    private static String about = "";
 
     private Due() {
+    }
+
+    /** What is printed before the answers that are wrong from here on. */
+    static void about(String what) {
+        about = what;
     }
 
     static void due(String what, long got, long want) {
@@ -13,13 +19,17 @@ final class Due {
         if (got != want) {
             wrong++;
             if (wrong <= MOST_PRINTED) {
-                System.out.println(what + " answered " + got + ", due is " + want);
+                System.out.println(about + what + " answered " + got + ", due is " + want);
             }
         }
     }
 
     static void due(String what, boolean holds) {
         due(what, holds ? 1 : 0, 1);
+    }
+
+    static int askedSoFar() {
+        return asked;
     }
 
     static int wrongSoFar() {

@@ -1,17 +1,5 @@
 /** One method for each promise of the document: ordinary inputs, the edges it names, wrong inputs. */
-public final class PromisesTest {
-    private static final int REFUSED = -1;
-    private static final int FULL = -2;
-    private static final int LOST = -3;
-    private static final long NONE = -1000000000000L;
-    private static final int MIN = Integer.MIN_VALUE;
-    private static final int MAX = Integer.MAX_VALUE;
-
-    private static final int W = 5;
-    private static final int R = Terms.readKey(W);
-    private static final int V = Terms.verifyKey(W);
-    private static final int OTHER = -77;
-
+public final class PromisesTest extends TestBase {
     private PromisesTest() {
     }
 
@@ -41,35 +29,6 @@ public final class PromisesTest {
         promise17Times();
         promise18Count();
         Due.finish();
-    }
-
-    private static void due(String what, long got, long want) {
-        Due.due(what, got, want);
-    }
-
-    /** A grid with one file under W and one version with the words 11, 22, .. of it. */
-    private static ShareGrid written(int needed, int servers) {
-        ShareGrid g = new ShareGrid(needed, servers);
-        g.create(W);
-        for (int i = 0; i < needed; i++) {
-            g.draft(i, words(needed)[i]);
-        }
-        g.write(W);
-        return g;
-    }
-
-    private static int[] words(int needed) {
-        int[] words = new int[needed];
-        for (int i = 0; i < needed; i++) {
-            words[i] = 11 * (i + 1);
-        }
-        return words;
-    }
-
-    private static void allUp(ShareGrid g, boolean up) {
-        for (int s = 0; s < g.count(3); s++) {
-            g.server(s, up, false);
-        }
     }
 
     private static void clamps(int needed, int servers, int k, int n) {
@@ -280,17 +239,6 @@ public final class PromisesTest {
         g.server(4, false, false);
         due("6: one of each", g.read(R), LOST);
         due("6: what was read stays", g.word(0), 11);
-    }
-
-    /** A record that is SOUND with a share nobody wrote shows which records are decoded. */
-    private static void forge(ShareGrid g, int needed, int servers, int s, int q) {
-        int[] prints = Terms.fingerprints(Terms.cipher(R, 1, words(needed)), servers);
-        int[] forged = prints.clone();
-        forged[s] = Terms.mix((int) g.share(0, s, 0) ^ 0x1234567, s + 100);
-        forged[q] = Terms.fingerprintForRoot(forged, 1, q, Terms.root(prints, 1));
-        g.tamper(0, s, 0, 0x1234567);
-        g.tamper(0, s, 3 + s, prints[s] ^ forged[s]);
-        g.tamper(0, s, 3 + q, prints[q] ^ forged[q]);
     }
 
     private static void promise6DecodesTheLeastPlaces() {
