@@ -5,55 +5,60 @@ import java.lang.reflect.Modifier;
 import java.util.Set;
 import java.util.TreeSet;
 
-/** The public face: every constant, constructor and method of the document, and no other. */
+/**
+ * The public face: every constant with its value, the constructor and every method with its types, as the
+ * document writes them out, and no other.
+ */
 public final class FaceTest {
-    private static final Set<String> FACE = Set.of(
-            "DONE int", "REFUSED int", "FULL int", "LOST int", "NONE long",
-            "ShareGrid(int,int)",
-            "int key(int,int)", "int create(int)", "int draft(int,int)", "int write(int)", "int read(int)",
-            "long word(int)", "int sound(int)", "int best(int)", "int repair(int)",
-            "int server(int,boolean,boolean)", "int tamper(int,int,int,int)", "int picture(int,int)",
-            "int fallBack(int,int)", "int wipe(int,int)", "long share(int,int,int)", "int times(int,int)",
-            "int count(int)");
+    private static final Class<?> GRID = ShareGrid.class;
+
+    private final Set<String> found = new TreeSet<>();
+    private final Set<String> methodNames = new TreeSet<>();
 
     private FaceTest() {
     }
 
-    public static void main(String[] args) {
-        Set<String> found = new TreeSet<>();
-        Set<String> faceNames = new TreeSet<>();
-        Class<?> grid = ShareGrid.class;
-        for (Field field : grid.getDeclaredFields()) {
-            if (!Modifier.isPrivate(field.getModifiers())) {
-                found.add(field.getName() + " " + field.getType());
-                Due.due(field + " is a public constant", isPublicConstant(field));
-            } else if (Modifier.isStatic(field.getModifiers())) {
-                Due.due(field + " is final", Modifier.isFinal(field.getModifiers()));
+    public static void main(String[] args) throws IllegalAccessException {
+        FaceTest test = new FaceTest();
+        test.findConstants();
+        test.findConstructors();
+        test.findMethods();
+        test.compareWithTheDocument();
+        test.lookAtPrivateNames();
+        Due.finish();
+    }
+
+    private void findConstants() throws IllegalAccessException {
+        for (Field field : GRID.getDeclaredFields()) {
+            int modifiers = field.getModifiers();
+            boolean isConstant = Modifier.isStatic(modifiers) && Modifier.isFinal(modifiers);
+            if (!Modifier.isPrivate(modifiers)) {
+                Due.due(field + " is a public constant", isConstant && Modifier.isPublic(modifiers));
+                String value = isConstant ? " = " + field.get(null) : "";
+                found.add(field.getType() + " " + field.getName() + value);
+            } else if (Modifier.isStatic(modifiers)) {
+                Due.due(field + " is final", isConstant);
             }
         }
-        for (Constructor<?> constructor : grid.getDeclaredConstructors()) {
+    }
+
+    private void findConstructors() {
+        for (Constructor<?> constructor : GRID.getDeclaredConstructors()) {
             found.add("ShareGrid" + types(constructor.getParameterTypes()));
             Due.due(constructor + " is public", Modifier.isPublic(constructor.getModifiers()));
         }
-        for (Method method : grid.getDeclaredMethods()) {
+    }
+
+    private void findMethods() {
+        for (Method method : GRID.getDeclaredMethods()) {
             if (!Modifier.isPrivate(method.getModifiers())) {
-                found.add(method.getReturnType() + " " + method.getName() + types(method.getParameterTypes()));
-                faceNames.add(method.getName());
+                String name = method.getName();
+                methodNames.add(name);
+                found.add(method.getReturnType() + " " + name + types(method.getParameterTypes()));
                 Due.due(method + " is public", Modifier.isPublic(method.getModifiers()));
                 Due.due(method + " is no static one", !Modifier.isStatic(method.getModifiers()));
             }
         }
-        Due.due("found " + found + ", the document's face", found.equals(new TreeSet<>(FACE)));
-        Due.due("the class is public and final",
-                Modifier.isPublic(grid.getModifiers()) && Modifier.isFinal(grid.getModifiers()));
-        lookAtPrivateNames(faceNames);
-        lookAtValues();
-        Due.finish();
-    }
-
-    private static boolean isPublicConstant(Field field) {
-        int modifiers = field.getModifiers();
-        return Modifier.isPublic(modifiers) && Modifier.isStatic(modifiers) && Modifier.isFinal(modifiers);
     }
 
     private static String types(Class<?>[] types) {
@@ -64,28 +69,42 @@ public final class FaceTest {
         return text.append(")").toString();
     }
 
-    private static void lookAtPrivateNames(Set<String> faceNames) {
-        checkPrivateNames(ShareGrid.class, faceNames);
-        for (Class<?> inside : ShareGrid.class.getDeclaredClasses()) {
+    private void compareWithTheDocument() {
+        Set<String> face = faceOfTheDocument();
+        Due.due("members that the document writes out", face.size(), 5 + 1 + 17);
+        Due.due("found " + found + ", the document has " + face, found.equals(face));
+        Due.due("the class is public and final",
+                Modifier.isPublic(GRID.getModifiers()) && Modifier.isFinal(GRID.getModifiers()));
+    }
+
+    /** Its members in the form in which they are found: without modifiers and names of parameters. */
+    private static Set<String> faceOfTheDocument() {
+        Set<String> face = new TreeSet<>();
+        for (String line : Sentences.section("The public face").split("\n")) {
+            if (line.startsWith("    public ")) {
+                face.add(line.strip()
+                        .replaceAll("public |static |final |L?;$", "")
+                        .replaceAll("(\\w+) \\w+(?=[,)])", "$1")
+                        .replace(", ", ","));
+            }
+        }
+        return face;
+    }
+
+    private void lookAtPrivateNames() {
+        checkPrivateNames(GRID);
+        for (Class<?> inside : GRID.getDeclaredClasses()) {
             Due.due(inside + " is static", Modifier.isStatic(inside.getModifiers()));
             Due.due(inside + " is not public", !Modifier.isPublic(inside.getModifiers()));
             Due.due(inside + " is not protected", !Modifier.isProtected(inside.getModifiers()));
-            checkPrivateNames(inside, faceNames);
+            checkPrivateNames(inside);
         }
     }
 
-    private static void checkPrivateNames(Class<?> of, Set<String> faceNames) {
+    private void checkPrivateNames(Class<?> of) {
         for (Method method : of.getDeclaredMethods()) {
             Due.due(method + " bears no name of the face",
-                    Modifier.isPublic(method.getModifiers()) || !faceNames.contains(method.getName()));
+                    Modifier.isPublic(method.getModifiers()) || !methodNames.contains(method.getName()));
         }
-    }
-
-    private static void lookAtValues() {
-        Due.due("DONE", ShareGrid.DONE, 0);
-        Due.due("REFUSED", ShareGrid.REFUSED, -1);
-        Due.due("FULL", ShareGrid.FULL, -2);
-        Due.due("LOST", ShareGrid.LOST, -3);
-        Due.due("NONE", ShareGrid.NONE, -1000000000000L);
     }
 }

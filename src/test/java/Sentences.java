@@ -15,7 +15,7 @@ final class Sentences {
     /** Runs the test of a sentence of the section, such as "Terms" or "Promise 3". */
     static void holds(String section, String sentence, Runnable test) {
         Due.about(section + ", \"" + sentence + "\": ");
-        Due.due("it stands in the document", SECTIONS.getOrDefault(section, "").contains(sentence));
+        Due.due("it stands in the document", section(section).contains(sentence));
         int before = Due.askedSoFar();
         try {
             test.run();
@@ -24,6 +24,11 @@ final class Sentences {
         }
         Due.due("its test asks for answers", Due.askedSoFar() > before);
         Due.about("");
+    }
+
+    /** What stands under the heading, or under its part before a colon. */
+    static String section(String heading) {
+        return SECTIONS.getOrDefault(heading, "");
     }
 
     private static Map<String, String> sections() {
